@@ -27,6 +27,13 @@ public final class OfficerTests {
         Check.is("new undoCount", x.undoCount(), 0);
         Check.is("new sums", x.executedOrders() + x.refusedOrders() + x.lostOrders(), 0);
         Check.is("new output", Check.output(x), "");
+        Check.is("new greatestDepth", x.greatestDepth(), 0);
+        Check.is("new subordinates(0)", x.subordinates(0), 0);
+        Check.is("new commandSize(0)", x.commandSize(0), 1);
+        Check.is("new commandSizeByCounting(0)", x.commandSizeByCounting(0), 1);
+        Check.is("new depthFromTop(0)", x.depthFromTop(0), 0);
+        Check.is("new officerByRank(0)", x.officerByRank(0), 0);
+        Check.is("new isConsistent", x.isConsistent(), true);
         for (int i = 1; i < 12; i++) {
             Check.is("new isInNavy", x.isInNavy(i), false);
         }
@@ -301,6 +308,25 @@ public final class OfficerTests {
         Check.fails(x, "officerByRank(5)", Check.ELEMENT, () -> x.officerByRank(5));
     }
 
+    private static void theFullNavy() {
+        CommandChain x = new CommandChain();
+        for (int i = 1; i < 12; i++) {
+            x.appoint(i < 6 ? 0 : i - 5, i < 6 ? 5 : i < 11 ? 4 : 3, 50 + i);
+        }
+        Check.is("officerCount of the full navy", x.officerCount(), 12);
+        Check.is("appointedCount of the full navy", x.appointedCount(), 12);
+        Check.is("the full navy", Check.written(x, 0), "0(1(6(11)),2(7),3(8),4(9),5(10))");
+        int[] order = {0, 5, 4, 3, 2, 1, 10, 9, 8, 7, 6, 11};
+        for (int place = 0; place < 12; place++) {
+            Check.is("place " + place + " of the full navy", x.officerByRank(place), order[place]);
+        }
+        Check.is("its mean loyalty", x.meanLoyalty(), 716.0 / 12.0);
+        Check.is("its commandSize", x.commandSize(0), 12);
+        Check.is("its commandSizeByCounting", x.commandSizeByCounting(0), 12);
+        Check.is("its isConsistent", x.isConsistent(), true);
+        Check.fails(x, "a place behind it", Check.ELEMENT, () -> x.officerByRank(12));
+    }
+
     private static void promises41And43Sums() {
         CommandChain x = new CommandChain();
         Check.is("meanLoyalty of the admiral", x.meanLoyalty(), 100.0);
@@ -330,6 +356,7 @@ public final class OfficerTests {
         longestChain();
         promises26To29Predictions();
         promise40OfficerByRank();
+        theFullNavy();
         promises41And43Sums();
         Check.end("OfficerTests");
     }

@@ -142,6 +142,22 @@ public final class OrderTests {
         Check.is("severity(1)", x.severity(1), 2);
     }
 
+    private static void sixOrdersAtOnce() {
+        CommandChain x = sample();
+        x.issue(0, 4, 1);
+        for (int i = 1; i < 6; i++) {
+            x.issue(0, 3, i);
+        }
+        Check.is("the first of six is executed", x.passHours(1), 1);
+        Check.is("orders left", x.orderCount(), 5);
+        for (int i = 0; i < 5; i++) {
+            Check.is("severity(" + i + ")", x.severity(i), i + 1);
+            Check.is("holder(" + i + ")", x.holder(i), 1);
+        }
+        Check.is("the others are executed", x.passHours(24), 5);
+        Check.is("loyalty(3)", x.loyalty(3), 40);
+    }
+
     private static void promise7Lost() {
         CommandChain x = sample();
         x.issue(0, 3, 1);
@@ -214,6 +230,7 @@ public final class OrderTests {
         promise7ThirdRefusal();
         refusalLosesOrdersOnBothSides();
         eachOrderIsVisitedOnce();
+        sixOrdersAtOnce();
         promise7Lost();
         promises30To33Orders();
         promises34To36And42Sums();

@@ -55,7 +55,7 @@ public final class TextTests {
             {"fire 1;x", 7}, {"fire 1;wai", 10},
             {"o", 1}, {"order", 5}, {"order 1 2", 9}, {"order 1 2 3456", 13}, {"order 123", 8}, {"order 1 234", 10},
             {"orders", 5}, {"flag", 4}, {"flag ", 5}, {"flag a", 6}, {"flag ab", 7}, {"flag ab ", 8},
-            {"flag abc", 7}, {"flag aB 1", 6}, {"flag A", 5}, {"flag a1", 6}, {"flag ab 100", 10}, {"flag {a", 5},
+            {"flag abc", 7}, {"flag  1", 5}, {"flag  ab 1", 5}, {"flag aB 1", 6}, {"flag A", 5}, {"flag a1", 6}, {"flag ab 100", 10}, {"flag {a", 5},
             {"flag a` 1", 6},
             {"w", 1}, {"wai", 3}, {"waits", 4}, {"wait ", 5}, {"wait x", 5}, {"wait 123", 7}, {"wait 1 ", 6},
             {"wait;", 5}, {";wait", 0}, {"wait  1", 5}, {"wait:", 4}, {"wait /", 5}, {"wait 1:", 6},

@@ -43,6 +43,30 @@ public final class UndoTests {
         eachRecordedCall(x, "runCommands", () -> Check.run(x, "fire 2;add 0 5 5;wait 3;flag zz 9;order 0 4 1"));
     }
 
+    /** Calls one after the other, and then all of them undone, so that each one's state before it is seen. */
+    private static void undoneInReverse(CommandChain x, Check.Call... calls) {
+        String[] before = new String[calls.length];
+        for (int i = 0; i < calls.length; i++) {
+            before[i] = stateWithoutUndo(x);
+            calls[i].make();
+        }
+        for (int i = calls.length - 1; i >= 0; i--) {
+            x.undo();
+            Check.is("the state before call " + i, stateWithoutUndo(x), before[i]);
+        }
+    }
+
+    private static void promise51ManyCalls() {
+        CommandChain x = sample();
+        undoneInReverse(x, () -> x.passHours(1), () -> x.promote(3), () -> x.transfer(3, 0), () -> x.issue(0, 3, 4),
+                () -> x.dismiss(2), () -> x.appoint(3, 1, 1), () -> x.passHours(3), () -> x.transfer(3, 1));
+        undoneInReverse(x, () -> x.define('c', 'd', 4), () -> x.define('e', 'f', 5), () -> x.erase('a', 'b'),
+                () -> x.erase('e', 'f'), () -> x.issue(0, 1, 1), () -> Check.run(x, "wait;flag aa 1"),
+                () -> x.erase('a', 'a'), () -> x.define('c', 'd', 5));
+        undoneInReverse(x, () -> x.promote(3), () -> x.issue(0, 1, 1), () -> x.transfer(2, 0), () -> x.passHours(1),
+                () -> x.erase('a', 'b'), () -> x.dismiss(1), () -> x.define('q', 'q', 1), () -> x.appoint(2, 1, 1));
+    }
+
     private static void promise50Count() {
         CommandChain x = new CommandChain();
         Check.is("undoCount", x.undoCount(), 0);
@@ -152,6 +176,7 @@ public final class UndoTests {
 
     public static void main(String[] args) {
         promise51EachMethod();
+        promise51ManyCalls();
         promise50Count();
         whatIsNotRecorded();
         promises52And53SaveAndRestore();
