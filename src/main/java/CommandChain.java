@@ -563,7 +563,10 @@ public final class CommandChain {
             } else if (officers.loyalty[next] < orders.severity[order]) {
                 orders.remove(order);
                 refused++;
-                noteRefusal(next);
+                officers.refusals[next]++;
+                if (officers.refusals[next] >= LAST_REFUSAL) {
+                    discharge(next);
+                }
             } else if (next == target) {
                 orders.remove(order);
                 executed++;
@@ -571,13 +574,6 @@ public final class CommandChain {
             } else {
                 orders.holder[order] = next;
                 orders.visited++;
-            }
-        }
-
-        private void noteRefusal(int officer) {
-            officers.refusals[officer]++;
-            if (officers.refusals[officer] >= LAST_REFUSAL) {
-                discharge(officer);
             }
         }
 
@@ -615,7 +611,9 @@ public final class CommandChain {
             System.arraycopy(other.loyalty, 0, loyalty, 0, MOST_OFFICERS);
             System.arraycopy(other.refusals, 0, refusals, 0, MOST_OFFICERS);
             System.arraycopy(other.superior, 0, superior, 0, MOST_OFFICERS);
-            System.arraycopy(other.serving, 0, serving, 0, MOST_OFFICERS);
+            for (int officer = 0; officer < MOST_OFFICERS; officer++) {
+                serving[officer] = other.serving[officer];
+            }
             appointed = other.appointed;
         }
 

@@ -54,6 +54,17 @@ public final class CodeBookTests {
         Check.is("define in the place that is free", x.define('a', 'a', 1), 20);
     }
 
+    private static void flagsAreToldApart() {
+        String[] flags = {"az", "ba", "za", "zz", "aa", "bz", "ca", "yz", "ab", "zy"};
+        CommandChain x = new CommandChain();
+        for (int i = 0; i < flags.length; i++) {
+            Check.is("define " + flags[i], x.define(flags[i].charAt(0), flags[i].charAt(1), i), i + 1);
+        }
+        for (int i = 0; i < flags.length; i++) {
+            Check.is("meaning of " + flags[i], x.meaning(flags[i].charAt(0), flags[i].charAt(1)), i);
+        }
+    }
+
     private static void promises37To39Queries() {
         CommandChain x = new CommandChain();
         Check.is("flagCount", x.flagCount(), 0);
@@ -84,6 +95,7 @@ public final class CodeBookTests {
     public static void main(String[] args) {
         promise8Define();
         promise9Erase();
+        flagsAreToldApart();
         promises37To39Queries();
         Check.end("CodeBookTests");
     }
