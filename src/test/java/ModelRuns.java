@@ -10,12 +10,13 @@ import java.util.TreeSet;
 
 /** All promises at once: long runs of mixed calls, answered by the class and by ModelNavy. The same runs each time. */
 public final class ModelRuns {
-    private static final int RUNS = 400;
-    private static final int CALLS = 512;
+    private static final int RUNS = 3000;
+    private static final int MOST_CALLS = 512;
+    private static final int CALLS_THAT_ONLY_ASK = 120;
     private static final Set<String> CHANGING = Set.of("appoint", "promote", "transfer", "dismiss", "issue",
             "passHours", "define", "erase", "feed", "runCommands", "writeCommand", "undo", "save", "restore");
-    private static final int[] EXTREMES = {Integer.MIN_VALUE, Integer.MAX_VALUE, -1, -2, 12, 13, 60, 100, 101, 256, 1 << 16};
-
+    private static final int[] EXTREMES =
+            {Integer.MIN_VALUE, Integer.MAX_VALUE, -1, -2, 12, 13, 60, 100, 101, 256, 1 << 16};
     private static final String[] FAVOURITES = {"appoint", "promote", "transfer", "issue", "define", "writeCommand"};
 
     private static long seed;
@@ -142,18 +143,19 @@ public final class ModelRuns {
         ModelNavy model = new ModelNavy();
         int style = below(4);
         String favourite = FAVOURITES[below(FAVOURITES.length)];
-        for (int call = 0; call < CALLS; call++) {
-            if (style == 3 && below(8) == 0 || below(40) == 0) {
-                String text = text();
-                for (int i = 0; i < text.length(); i++) {
-                    same(run, call++, x, model, feed, new Object[] {text.charAt(i)});
-                }
-                same(run, call++, x, model, runCommands, new Object[0]);
+        int call = 0;
+        while (call < MOST_CALLS - CALLS_THAT_ONLY_ASK) {
+            String text = style == 3 && below(8) == 0 || below(40) == 0 ? text() : "";
+            for (int i = 0; i < text.length() && call < MOST_CALLS - CALLS_THAT_ONLY_ASK; i++) {
+                same(run, call++, x, model, feed, new Object[] {text.charAt(i)});
             }
-            Method method = nextMethod(all, style, favourite);
-            same(run, call, x, model, method, arguments(method, x.appointedCount()));
-            if (below(40) == 0) {
-                compareAll(run, call, all, x, model);
+            Method method = text.isEmpty() ? nextMethod(all, style, favourite) : runCommands;
+            same(run, call++, x, model, method, arguments(method, model.appointedCount()));
+        }
+        while (call < MOST_CALLS) {
+            Method method = all.get(below(all.size()));
+            if (!CHANGING.contains(method.getName())) {
+                same(run, call++, x, model, method, arguments(method, model.appointedCount()));
             }
         }
     }
@@ -178,26 +180,6 @@ public final class ModelRuns {
         };
     }
 
-    private static void compareAll(int run, int call, List<Method> all, CommandChain x, ModelNavy model)
-            throws ReflectiveOperationException {
-        for (Method method : all) {
-            if (CHANGING.contains(method.getName())) {
-                continue;
-            }
-            Class<?>[] types = method.getParameterTypes();
-            for (int a = 0; a < (types.length > 0 ? 13 : 1); a++) {
-                for (int b = 0; b < (types.length > 1 ? 13 : 1); b++) {
-                    Object[] arguments = new Object[types.length];
-                    for (int i = 0; i < types.length; i++) {
-                        int value = i == 0 ? a : i == 1 ? b : 50;
-                        arguments[i] = types[i] == char.class ? (Object) (char) ('a' + value) : (Object) value;
-                    }
-                    same(run, call, x, model, method, arguments);
-                }
-            }
-        }
-    }
-
     public static void main(String[] args) throws ReflectiveOperationException {
         List<Method> all = methods();
         Method feed = CommandChain.class.getMethod("feed", char.class);
@@ -205,7 +187,8 @@ public final class ModelRuns {
         for (int run = 0; run < RUNS; run++) {
             oneRun(run, all, feed, runCommands);
         }
-        System.out.println("ModelRuns: " + RUNS + " runs, " + outcomes.size() + " kinds of answers, " + wrong + " wrong");
+        System.out.println("ModelRuns: " + RUNS + " runs, " + outcomes.size() + " kinds of answers, " + wrong
+                + " wrong");
         if (args.length > 0) {
             System.out.println(outcomes);
         }
