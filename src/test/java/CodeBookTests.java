@@ -147,6 +147,24 @@ public final class CodeBookTests {
                 erase('z', 'z') = 99
                 flagCount() = 0
                 """);
+        Run.sentence("Code book", "A flag consists of two letters from 'a' to 'z'. (characters beside the letters are no"
+                + " way to the flag before or behind)", """
+                define('a', 'a', 1)
+                define('a', 'z', 2)
+                define('b', 'a', 3)
+                erase('`', '{') throws.IllegalArgumentException
+                erase('a', '{') throws.IllegalArgumentException
+                erase('b', '`') throws.IllegalArgumentException
+                meaning('`', '{') throws.IllegalArgumentException
+                meaning('a', '{') throws.IllegalArgumentException
+                meaning('b', '`') throws.IllegalArgumentException
+                define('`', '{', 9) throws.IllegalArgumentException
+                define('a', '{', 9) throws.IllegalArgumentException
+                define('b', '`', 9) throws.IllegalArgumentException
+                meaning('a', 'a') = 1
+                meaning('a', 'z') = 2
+                meaning('b', 'a') = 3
+                """);
         Run.sentence("Errors", "If several exceptions apply, the one listed first is thrown. (erase, meaning)", """
                 erase('A', 'a') throws.IllegalArgumentException
                 erase('a', '{') throws.IllegalArgumentException

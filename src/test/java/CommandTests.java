@@ -315,6 +315,10 @@ public final class CommandTests {
                 + failing("move 1 5", 0) + failing("move 1 2", 0) + failing("move 3 2;move 2 3", 1)
                 + failing("fire 6", 0) + failing("fire 0", 0) + failing("fire 99", 0) + failing("fire 5;fire 5", 1)
                 + failing("fire 2;move 3 2", 1) + "run(move 3 2;fire 1;fire 2) = 3\n");
+        Run.sentence("45", "if a command throws an exception (officers behind the full navy)", Rows.FULL
+                + failing("fire 12", 0) + failing("move 12 0", 0) + failing("move 11 12", 0)
+                + failing("order 0 12 5", 0) + failing("add 12 1 5", 0) + failing("wait;fire 11;fire 11", 2)
+                + "run(order 0 11 5;move 11 0;fire 11) = 3\n");
         Run.sentence("45", "if a command throws an exception (order)", Rows.LINE
                 + failing("order 5 3 5", 0) + failing("order 0 99 5", 0) + failing("order 0 3 101", 0)
                 + failing("order 0 3 999", 0) + failing("order 3 0 5", 0) + failing("order 1 1 5", 0)
