@@ -42,7 +42,8 @@ public final class ModelRuns {
         return all;
     }
 
-    private static Object outcome(Object on, Method method, Object[] arguments) throws IllegalAccessException {
+    /** The answer, or the name of the exception, told apart from one of the machine's own. */
+    static Object outcome(Object on, Method method, Object[] arguments) throws IllegalAccessException {
         try {
             return method.invoke(on, arguments);
         } catch (InvocationTargetException e) {
